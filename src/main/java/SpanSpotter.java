@@ -583,7 +583,7 @@ public final class SpanSpotter {
         }
 
         int topOf(int x) {
-            return topWith(x, property[KIND][x]);
+            return property[GROUND][x] + height(property[KIND][x]);
         }
 
         /** The room at x, times roomLower(a, b). */
@@ -857,7 +857,10 @@ public final class SpanSpotter {
             if (next == NONE) {
                 return;
             }
-            if (kind < LEVELS && isLifted(line, x, next)) {
+            // Neither end has towers on both sides, so the ends need no test of their own here.
+            int previous = line.towerBefore(x);
+            if (kind < LEVELS && previous != NONE && line.pullUpper(previous, x, next)
+                    < line.setting[LIFT] * line.pullLower(previous, x, next)) {
                 add(x, UPLIFT);
             }
             if (next - x > line.setting[REACH]) {
@@ -866,13 +869,6 @@ public final class SpanSpotter {
             if (!line.clears(x, line.topOf(x), next, line.topOf(next))) {
                 add(x, LOW);
             }
-        }
-
-        // Neither end has towers on both sides, so the ends need no test of their own.
-        private boolean isLifted(Line line, int x, int next) {
-            int previous = line.towerBefore(x);
-            return previous != NONE && line.pullUpper(previous, x, next)
-                    < line.setting[LIFT] * line.pullLower(previous, x, next);
         }
 
         private void add(int x, int number) {
