@@ -43,7 +43,8 @@ public final class SpanSpotter {
     // fewest towers of the least cost. NO_WAY lies above all of them.
     private static final int TOWER_STEP = 32;
     private static final int NO_WAY = 100000000;
-    private static final int ANY_PULL = Integer.MIN_VALUE;
+    // Below every need: the parts of a pull stay within 40 million.
+    private static final int ANY_PULL = -1000000000;
 
     private final Line line = new Line();
     private final History history = new History();

@@ -82,7 +82,8 @@ public final class CheapestTest {
                 + "cheapest(0) = 50");
         // The pull is just the lift: a hanger will do; else an anchor is needed.
         s = Due.with("g0,0,0,0,0;s1,2;l2;r2;n0,4,0;f9,0;b1;b3;");
-        DUE.run(s, "cheapest(0) = 65; spot(1, 1) = 0; sets(5, 3) = 2; cheapest(0) = 78;"
+        DUE.run(s, "cheapest(0) = 65; spot(1, 1) = 0; through(2) = 65; through(4) = 65;"
+                + "sets(5, 3) = 2; cheapest(0) = 78;"
                 + "spot(1, 1) = 3; sets(5, 2) = 3; lays(0, 0, 1) = 0; spot(1, 1) = 3");
         // Each hanger's pull depends on both its spans: 1, 2 and 5 long ones make fractions.
         s = Due.with("g20,15,13,9,6,4,4,5,7;s3,17;l1;r5;f8,3;n0,8,2;");

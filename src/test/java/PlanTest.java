@@ -9,6 +9,7 @@ public final class PlanTest {
         flaws();
         flawOrder();
         flawEdges();
+        manyFlaws();
         room();
         nearest();
         pull();
@@ -89,6 +90,23 @@ public final class PlanTest {
                 + "all(2) = 2; flaw(1, 1) = 5");
     }
 
+    private static void manyFlaws() {
+        // Hangers on every other place, all of them in pits: each has all the flaws it can have.
+        SpanSpotter s = Due.with("g0,99,0,99,0,99,0,99,0,99,0,99,0,99,0,99,0,99,0,99,0;r1;s0,1;l1;");
+        for (int x = 0; x <= 20; x += 2) {
+            s.puts(x, 0);
+            s.lays(x, 3, 1);
+        }
+        DUE.is("flaws", s.all(2), 3 + 9 * 4 + 1);
+        DUE.is("the last flaw", s.flaw(39, 0), 20);
+        DUE.is("its number", s.flaw(39, 1), 1);
+        DUE.is("no further flaw", s.flaw(40, 0), SpanSpotter.NONE);
+        for (int k = 3; k < 39; k++) {
+            DUE.is("place of flaw " + k, s.flaw(k, 0), 2 + (k - 3) / 4 * 2);
+            DUE.is("number of flaw " + k, s.flaw(k, 1), 2 + (k - 3) % 4);
+        }
+    }
+
     private static void room() {
         DUE.runNew("room(-1) = -2; room(11) = -2; room(5) = -3; puts(5, 0) = 1; room(5) = -3;"
                 + "room(4) = -3; room(6) = -3; puts(8, 2) = 2; room(8) = -3; room(9) = -3;"
@@ -123,6 +141,9 @@ public final class PlanTest {
                 + "lower() = 21; lays(3, 0, 99) = 0; pull(3) = 1; upper() = 1027; lower() = 21;"
                 + "lays(3, 0, 0) = 99; lays(0, 0, 99) = 0; pull(3) = 1; upper() = -656;"
                 + "lower() = 21");
+        // sag * (9 - 2) + (16 - 12) / 3 + (16 - 20) / 4 = 7 / 10 + 1 / 3.
+        DUE.runNew("puts(2, 3) = 1; puts(5, 1) = 2; puts(9, 5) = 3; pull(5) = 1; upper() = 31;"
+                + "lower() = 30");
         // Of whatever kind, and over spans longer than reach.
         DUE.runNew("puts(0, 0) = 1; puts(5, 5) = 2; puts(10, 0) = 3; pull(5) = 1; upper() = 21;"
                 + "lower() = 5; sets(4, 1) = 4; pull(5) = 1; upper() = 21; sets(2, 0) = 1;"

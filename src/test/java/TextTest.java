@@ -186,6 +186,12 @@ public final class TextTest {
         faultBehind("b02;", 2);
         faultBehind("b;", 1);
         faultBehind("b1,", 2);
+        faultBehind("n000,2,1;", 3);
+        faultBehind("n0,002,1;", 5);
+        faultBehind("n0,2,001;", 7);
+        faultBehind("p000,1;", 3);
+        faultBehind("p0,001;", 5);
+        faultBehind("b001;", 3);
         reads("g1,2,3;n02,02,30;p00,09;p2,0;b01;b1;n0,2,0;n2,2,00;", 8);
         reads("g0,0,0,0,0,0,0,0,0,0,0,0;p11,9;b10;n9,11,3;", 4);
         reads("g0,0,0,0,0,0,0,0,0,0,0,0;p12,9;", -10 - 27);
