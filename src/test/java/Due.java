@@ -28,6 +28,15 @@ final class Due {
         }
     }
 
+    /** Compares what is told by more than one number: a plan, flaws, a list. */
+    void same(String what, Object got, Object want) {
+        asked++;
+        if (!got.equals(want)) {
+            wrong++;
+            System.out.println(test + ": " + what + " is " + got + ", due is " + want);
+        }
+    }
+
     /** Makes calls in the document's form, such as "puts(0, 3) = 1; told(0) = 0;", in order. */
     void run(SpanSpotter s, String calls) {
         for (String part : calls.split(";")) {
@@ -44,7 +53,8 @@ final class Due {
         run(new SpanSpotter(), calls);
     }
 
-    private static long call(SpanSpotter s, String words) {
+    /** Makes one call in the document's form, and returns its answer. */
+    static long call(SpanSpotter s, String words) {
         String name = words.substring(0, words.indexOf('('));
         String inside = words.substring(words.indexOf('(') + 1, words.indexOf(')')).trim();
         Object[] arguments = inside.isEmpty() ? new Object[0]
@@ -63,6 +73,18 @@ final class Due {
     void fraction(String call, SpanSpotter s, long upper, long lower) {
         is(call + " then upper()", s.upper(), upper);
         is(call + " then lower()", s.lower(), lower);
+    }
+
+    int asked() {
+        return asked;
+    }
+
+    int wrong() {
+        return wrong;
+    }
+
+    String test() {
+        return test;
     }
 
     void end() {
