@@ -150,6 +150,11 @@ final class CheapestPromises {
         // A hanger at 2 is pulled too little there, with whatever is beside it: an anchor.
         due.run(Due.with("g30,0,0,0,30;s0,1;r4;n0,4,0;f10,5;"), "cheapest(0) = 56;"
                 + "through(0) = 56; through(2) = 84; through(4) = 56");
+        // The pull of a hanger at 2 is just lift, then less: what leads to it counts too.
+        due.run(Due.with("g0,0,0,0,0;s1,2;l2;r2;n0,4,0;f9,0;b1;b3;"), "through(2) = 65;"
+                + "through(4) = 65; sets(5, 3) = 2; through(2) = 78; through(4) = 78;"
+                + "sets(5, 2) = 3; lays(0, 0, 1) = 0; through(2) = 78; through(4) = 78;"
+                + "lays(2, 0, 1) = 0; through(2) = 65; through(4) = 65");
         due = d.says("- `x`: the place");
         due.run(Due.with("g0,0,0;p1,1;"), "through(0) = 64; through(1) = 81; through(2) = 64;"
                 + "through(3) = -2; through(-1) = -2");
@@ -198,7 +203,8 @@ final class CheapestPromises {
                 + "builds() = 3; puts(3, 0) = 4; builds() = 3; puts(5, 4) = 3; puts(5, 3) = 3;"
                 + "builds() = -3; told(1) = 2; told(4) = 6");
         due.run(Due.with("g0,0,0;"), "puts(0, 3) = 1; puts(2, 3) = 2; builds() = -3;"
-                + "puts(2, 4) = 2; builds() = 2; sets(4, 1) = 4; builds() = 3; builds() = -3");
+                + "puts(2, 4) = 2; builds() = 2; puts(0, 4) = 2; builds() = 2; puts(0, 0) = 2;"
+                + "builds() = 2; sets(4, 1) = 4; builds() = 3; builds() = -3");
     }
 
     private void otherwise() {

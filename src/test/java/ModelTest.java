@@ -14,6 +14,7 @@ public final class ModelTest {
     private SpanSpotter program;
     private Model model;
     private StringBuilder log;
+    private int left;
 
     private ModelTest(long seed, int longest) {
         this.random = new Random(seed);
@@ -21,32 +22,39 @@ public final class ModelTest {
     }
 
     public static void main(String[] args) throws Exception {
-        int runs = args.length > 0 ? Integer.parseInt(args[0]) : 150;
+        int runs = args.length > 0 ? Integer.parseInt(args[0]) : 200;
         long seed = args.length > 1 ? Long.parseLong(args[1]) : 1;
         ModelTest small = new ModelTest(seed, 7);
         for (int i = 0; i < runs; i++) {
-            small.run(200);
+            small.run(512);
         }
         ModelTest large = new ModelTest(seed + 1000, 20);
-        for (int i = 0; i < 1 + runs / 25; i++) {
-            large.run(60);
+        for (int i = 0; i < 1 + runs / 33; i++) {
+            large.run(260);
         }
         small.due.end();
         large.due.end();
     }
 
+    /** Makes so many calls, of which the last one is digest(); no object is good for over 512. */
     private void run(int calls) throws Exception {
         program = new SpanSpotter();
         model = new Model();
         log = new StringBuilder();
+        left = calls - 1;
         profile();
-        for (int i = 0; i < calls; i++) {
+        while (left > 0) {
             step();
         }
+        left = 1;
         call("digest");
     }
 
     private void call(String name, int... arguments) throws Exception {
+        if (left == 0) {
+            return;
+        }
+        left--;
         Class<?>[] types = new Class<?>[arguments.length];
         Object[] values = new Object[arguments.length];
         StringBuilder words = new StringBuilder(name).append('(');

@@ -112,6 +112,12 @@ final class TextPromises {
         due.run(s, "all(4) = 20; place(20, 0) = 7; place(1, 3) = 0; place(2, 2) = 0; all(5) = 12");
         due.is("3 heights", Due.reads(s, "g4,5,6;"), 1);
         due.run(s, "all(4) = 2; place(2, 0) = 6; place(3, 0) = -2; cheapest(1) = 2; spot(1, 0) = 2");
+        // What was known of the cheapest plan and of the flaws is not known any more.
+        s = new SpanSpotter();
+        Due.types(s, "g0,0,0;f20,4;");
+        due.run(s, "cheapest(0) = 96; through(2) = 96; all(2) = 2; flaw(1, 0) = 10; reads() = 2;"
+                + "cheapest(0) = 96; cheapest(1) = 2; through(2) = 96; through(1) = 120;"
+                + "spot(1, 0) = 2; flaw(1, 0) = 2; all(2) = 2; back() = 0; cheapest(1) = 4");
         due = d.says("There are no towers then.");
         s = new SpanSpotter();
         Due.types(s, "g0,0,0,0,0,0,0,0,0,0,0;");

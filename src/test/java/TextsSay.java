@@ -396,6 +396,8 @@ final class TextsSay {
         fault(due, "g100,2,3;", 3);
         fault(due, "g001,2,3;", 3);
         fault(due, "g1,2,003;", 7);
+        fault(due, TWENTY + ",000;", TWENTY.length() + 3);
+        fault(due, TWENTY + ",001,0;", TWENTY.length() + 3);
         faultBehind(due, "r001;", 3);
         faultBehind(due, "r0001;", 3);
         faultBehind(due, "r000;", 3);
