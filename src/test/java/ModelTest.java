@@ -1,5 +1,3 @@
-import java.lang.reflect.InvocationTargetException;
-import java.lang.reflect.Method;
 import java.util.Random;
 
 /**
@@ -11,9 +9,7 @@ public final class ModelTest {
     private final Due due = new Due("model");
     private final Random random;
     private final int longest;
-    private SpanSpotter program;
-    private Model model;
-    private StringBuilder log;
+    private Pair pair;
     private int left;
 
     private ModelTest(long seed, int longest) {
@@ -38,9 +34,7 @@ public final class ModelTest {
 
     /** Makes so many calls, of which the last one is digest(); no object is good for over 512. */
     private void run(int calls) throws Exception {
-        program = new SpanSpotter();
-        model = new Model();
-        log = new StringBuilder();
+        pair = new Pair(due);
         left = calls - 1;
         profile();
         while (left > 0) {
@@ -51,34 +45,9 @@ public final class ModelTest {
     }
 
     private void call(String name, int... arguments) throws Exception {
-        if (left == 0) {
-            return;
-        }
-        left--;
-        Class<?>[] types = new Class<?>[arguments.length];
-        Object[] values = new Object[arguments.length];
-        StringBuilder words = new StringBuilder(name).append('(');
-        for (int i = 0; i < arguments.length; i++) {
-            types[i] = int.class;
-            values[i] = arguments[i];
-            words.append(i == 0 ? "" : ", ").append(arguments[i]);
-        }
-        words.append(')');
-        long want = answer(Model.class.getDeclaredMethod(name, types), model, values);
-        long got = answer(SpanSpotter.class.getMethod(name, types), program, values);
-        log.append(words).append(" = ").append(want).append("; ");
-        due.is(words.toString(), got, want);
-        if (got != want) {
-            System.out.println("  after " + log);
-            due.end();
-        }
-    }
-
-    private static long answer(Method method, Object object, Object[] values) throws Exception {
-        try {
-            return ((Number) method.invoke(object, values)).longValue();
-        } catch (InvocationTargetException e) {
-            throw new IllegalStateException(method + " threw", e.getCause());
+        if (left > 0) {
+            left--;
+            pair.call(name, arguments);
         }
     }
 
@@ -155,7 +124,7 @@ public final class ModelTest {
     }
 
     private int place() {
-        return value(0, model.now.n);
+        return value(0, pair.model.now.n);
     }
 
     private int setting(int what) {
